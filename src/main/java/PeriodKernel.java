@@ -530,15 +530,6 @@ public final class PeriodKernel {
             return interval > 0 && sinceBegin % interval == 0;
         }
 
-        boolean releasesAny(int sinceBegin) {
-            for (int i = 0; i < TASKS; i++) {
-                if (releases(i, sinceBegin)) {
-                    return true;
-                }
-            }
-            return false;
-        }
-
         int chooseNext(Port[] ports) {
             for (int i = 0; i < guardCount; i++) {
                 if (guards[i].isTrue(ports[guards[i].port].value)) {
@@ -616,9 +607,6 @@ public final class PeriodKernel {
             released = time;
             due = end;
             stepsLeft = budget;
-            next = 0;
-            stack.depth = 0;
-            overran = false;
             for (int i = 0; i < SLOTS; i++) {
                 if (slots[i].way == IN) {
                     slots[i].content = ports[slots[i].port].value;
@@ -626,10 +614,10 @@ public final class PeriodKernel {
             }
         }
 
+        /** Leaves word 0 and an empty stack, as a new task has them, for the job that comes. */
         void dropJob() {
             released = NONE;
             due = NONE;
-            stepsLeft = 0;
             next = 0;
             stack.depth = 0;
             overran = false;
@@ -991,37 +979,16 @@ public final class PeriodKernel {
             return NONE;
         }
 
-        /** The jobs from a time without releases on are those from the next release on. */
+        /**
+         * The whole period tells for every part of it: a part holds at most its share of each task's
+         * jobs, since these are of one length and fill the period.
+         */
         private static boolean isOverloaded(Task[] tasks, Mode mode) {
-            for (int a = 0; a < mode.period; a++) {
-                if (mode.releasesAny(a) && isOverloadedFrom(tasks, mode, a)) {
-                    return true;
-                }
-            }
-            return false;
-        }
-
-        /** Whether, from time a on, there is a later time b by which too many steps are due. */
-        private static boolean isOverloadedFrom(Task[] tasks, Mode mode, int a) {
             int asked = 0;
-            for (int b = a + 1; b <= mode.period; b++) {
-                asked += sumBudgets(tasks, mode, a, b);
-                if (asked > STEPS_A_TIME * (b - a)) {
-                    return true;
-                }
-            }
-            return false;
-        }
-
-        /** The budgets of the jobs that are published at b and were released at a or later. */
-        private static int sumBudgets(Task[] tasks, Mode mode, int a, int b) {
-            int sum = 0;
             for (int i = 0; i < TASKS; i++) {
-                if (mode.releases(i, b) && b - mode.interval(i) >= a) {
-                    sum += tasks[i].budget;
-                }
+                asked += mode.uses(i) ? mode.often[i] * tasks[i].budget : 0;
             }
-            return sum;
+            return asked > STEPS_A_TIME * mode.period;
         }
     }
 }
