@@ -1,5 +1,8 @@
-/** What the tests share: answers that are due, calls that must be refused, and words of code. */
-final class Checks {
+/**
+ * What the tests share: answers that are due, calls that must be refused, and words of code. A test
+ * may extend it to have these names at hand.
+ */
+abstract class Checks {
     static final int END = 0;
     static final int PUSH = 1;
     static final int GET = 2;
@@ -26,15 +29,25 @@ final class Checks {
     static final Class<IllegalArgumentException> ARGUMENT = IllegalArgumentException.class;
     static final Class<IllegalStateException> STATE = IllegalStateException.class;
 
-    private static int wrong;
+    static final int LEAST = Integer.MIN_VALUE;
+    static final int GREATEST = Integer.MAX_VALUE;
 
-    private Checks() {
+    private static int wrong;
+    private static String sentence = "";
+
+    /** What is printed from now on is told with this sentence of the document. */
+    static void tellWith(String quote) {
+        sentence = quote.isEmpty() ? "" : "[" + quote + "] ";
+    }
+
+    static void isWrong(String what) {
+        wrong++;
+        System.out.println(sentence + what);
     }
 
     static void due(String what, long got, long want) {
         if (got != want) {
-            wrong++;
-            System.out.println(what + " answered " + got + ", due is " + want);
+            isWrong(what + " answered " + got + ", due is " + want);
         }
     }
 
@@ -50,8 +63,7 @@ final class Checks {
             got = e.getClass().getName();
         }
         if (!got.equals(want.getName())) {
-            wrong++;
-            System.out.println(what + " throws " + got + ", due is " + want.getName());
+            isWrong(what + " throws " + got + ", due is " + want.getName());
         }
     }
 
@@ -81,6 +93,18 @@ final class Checks {
         kernel.task(0, budget);
         code(kernel, 0, words);
         return kernel;
+    }
+
+    static void begin(PeriodKernel kernel) {
+        due("start()", kernel.start(), 0);
+    }
+
+    /** Runs every job and lets time go on, so many times. */
+    static void pass(PeriodKernel kernel, int times) {
+        for (int i = 0; i < times; i++) {
+            kernel.step(2000);
+            kernel.advance();
+        }
     }
 
     static void dueJob(String what, PeriodKernel kernel, int task, int from, int... want) {

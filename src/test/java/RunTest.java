@@ -28,18 +28,6 @@ public final class RunTest {
         Checks.end();
     }
 
-    private static void begin(PeriodKernel kernel) {
-        Checks.due("start()", kernel.start(), 0);
-    }
-
-    /** Runs every job and lets time go on, so many times. */
-    private static void pass(PeriodKernel kernel, int times) {
-        for (int i = 0; i < times; i++) {
-            kernel.step(2000);
-            kernel.advance();
-        }
-    }
-
     /** Task t counts in its local 0 and publishes at that port, in slot 0, what it has counted. */
     private static void counter(PeriodKernel kernel, int task, int port, int by) {
         Checks.code(kernel, task, Checks.word(Checks.LOAD, 0), Checks.word(Checks.PUSH, by), Checks.ADD, Checks.DUP,
@@ -60,7 +48,7 @@ public final class RunTest {
         kernel.actuate(5, 2);
         kernel.guard(0, 2, 2, 6, 1);
         kernel.mode(1, 1);
-        begin(kernel);
+        Checks.begin(kernel);
         Checks.dueAbout("time 0", kernel, 0, 0, 0, 0, 1, Checks.NONE);
         Checks.dueJob("time 0", kernel, 0, 0, 3, 0, 4);
         Checks.dueJob("time 0", kernel, 0, 11, 6, 8);
@@ -76,7 +64,7 @@ public final class RunTest {
         Checks.refused("sensor -1", Checks.INDEX, () -> kernel.sensor(-1, 0));
         kernel.sensor(7, 20);
         Checks.due("before the start", kernel.value(0), 7);
-        begin(kernel);
+        Checks.begin(kernel);
         Checks.due("at time 0", kernel.value(0), 20);
         kernel.sensor(7, 30);
         kernel.sensor(7, 31);
@@ -93,7 +81,7 @@ public final class RunTest {
         kernel.port(0, -5, 5, 2);
         kernel.sense(0, 0);
         kernel.sensor(0, Integer.MAX_VALUE);
-        begin(kernel);
+        Checks.begin(kernel);
         Checks.due("above", kernel.value(0), 5);
         kernel.sensor(0, Integer.MIN_VALUE);
         kernel.advance();
@@ -101,7 +89,7 @@ public final class RunTest {
         PeriodKernel unset = Checks.single(4, 3, Checks.END);
         unset.port(0, 3, 5, 4);
         unset.sense(0, 0);
-        begin(unset);
+        Checks.begin(unset);
         Checks.due("0 at first, at the nearer end", unset.value(0), 3);
     }
 
@@ -115,7 +103,7 @@ public final class RunTest {
         }
         kernel.use(0, 4, 3);
         Checks.code(kernel, 4, Checks.END);
-        begin(kernel);
+        Checks.begin(kernel);
         return kernel;
     }
 
@@ -155,7 +143,7 @@ public final class RunTest {
         }
         Checks.refused("step(0), nothing runs", Checks.STATE, () -> kernel.step(0));
         Checks.refused("step(2000), nothing runs", Checks.STATE, () -> kernel.step(2000));
-        begin(kernel);
+        Checks.begin(kernel);
         Checks.refused("step(2001)", Checks.ARGUMENT, () -> kernel.step(2001));
         Checks.refused("step(-1)", Checks.ARGUMENT, () -> kernel.step(-1));
         Checks.due("step(0)", kernel.step(0), 0);
@@ -168,7 +156,7 @@ public final class RunTest {
         kernel.port(0, 0, 9, 0);
         kernel.sense(0, 0);
         Checks.refused("nothing runs", Checks.STATE, kernel::advance);
-        begin(kernel);
+        Checks.begin(kernel);
         kernel.sensor(0, 5);
         Checks.due("advance()", kernel.advance(), 1);
         kernel.sensor(0, 6);
@@ -197,8 +185,8 @@ public final class RunTest {
         kernel.wire(1, 5, 3, Checks.OUT);
         kernel.wire(1, 2, 8, Checks.OUT);
         kernel.wire(1, 3, 1, Checks.IN);
-        begin(kernel);
-        pass(kernel, 2);
+        Checks.begin(kernel);
+        Checks.pass(kernel, 2);
         Checks.due("events", kernel.about(3), 3);
         Checks.dueEvent("task 1, slot 2", kernel, 0, 2, 8, 8, 0);
         Checks.dueEvent("task 1, slot 5", kernel, 1, 2, 3, 3, 0);
@@ -216,8 +204,8 @@ public final class RunTest {
         kernel.port(1, 0, 90, 90);
         kernel.wire(0, 1, 1, Checks.OUT);
         kernel.port(1, 0, 40, 3);
-        begin(kernel);
-        pass(kernel, 2);
+        Checks.begin(kernel);
+        Checks.pass(kernel, 2);
         Checks.dueEvent("set", kernel, 0, 1, 0, -30, 0);
         Checks.dueEvent("held since it was wired", kernel, 1, 1, 1, 40, 0);
         Checks.dueEvent("set before", kernel, 2, 2, 0, -30, 0);
@@ -238,8 +226,8 @@ public final class RunTest {
         Checks.code(kernel, 1, Checks.word(Checks.JUMP, 0));
         kernel.task(1, 2);
         kernel.wire(1, 0, 1, Checks.OUT);
-        begin(kernel);
-        pass(kernel, 2);
+        Checks.begin(kernel);
+        Checks.pass(kernel, 2);
         Checks.dueEvent("ended", kernel, 0, 1, 0, 4, 0);
         Checks.dueEvent("overran", kernel, 1, 1, 1, 0, 1);
         Checks.dueEvent("ended again", kernel, 2, 2, 0, 4, 0);
@@ -257,19 +245,19 @@ public final class RunTest {
         kernel.sensor(0, 25);
         kernel.actuate(3, 1);
         kernel.actuate(4, 2);
-        begin(kernel);
+        Checks.begin(kernel);
         Checks.due("at time 0", kernel.actuator(3, 0), 25);
-        pass(kernel, 2);
+        Checks.pass(kernel, 2);
         Checks.due("no change at time 2", kernel.actuator(3, 1), 0);
         kernel.sensor(0, 60);
-        pass(kernel, 2);
+        Checks.pass(kernel, 2);
         Checks.due("latched at 2", kernel.actuator(3, 0), 25);
-        pass(kernel, 1);
+        Checks.pass(kernel, 1);
         Checks.due("not published at 5", kernel.actuator(3, 0), 25);
-        pass(kernel, 1);
+        Checks.pass(kernel, 1);
         Checks.due("published at 6", kernel.actuator(3, 0), 60);
         Checks.due("CHANGE at 6", kernel.actuator(3, 1), 6);
-        pass(kernel, 3);
+        Checks.pass(kernel, 3);
         Checks.due("CHANGE stays", kernel.actuator(3, 1), 6);
         Checks.due("one that does not move", kernel.actuator(4, 1), 0);
     }
@@ -280,7 +268,7 @@ public final class RunTest {
         kernel.sense(0, 0);
         kernel.sensor(0, 50);
         kernel.actuate(0, 0);
-        begin(kernel);
+        Checks.begin(kernel);
         Checks.due("at time 0", kernel.actuator(0, 0), 5);
         Checks.due("the port", kernel.value(0), 50);
         kernel.advance();
@@ -296,9 +284,9 @@ public final class RunTest {
                 kernel.port(9, -5, 5, -3 + is);
                 kernel.mode(1, 1);
                 kernel.guard(0, 9, how, -3, 1);
-                begin(kernel);
+                Checks.begin(kernel);
                 Checks.due("not at time 0", kernel.about(1), 0);
-                pass(kernel, 1);
+                Checks.pass(kernel, 1);
                 Checks.due("how " + how + " by " + is, kernel.about(1), want[how][is + 1]);
             }
         }
@@ -306,8 +294,8 @@ public final class RunTest {
         kernel.port(0, Integer.MIN_VALUE, Integer.MAX_VALUE, Integer.MIN_VALUE);
         kernel.mode(1, 1);
         kernel.guard(0, 0, 0, Integer.MAX_VALUE, 1);
-        begin(kernel);
-        pass(kernel, 1);
+        Checks.begin(kernel);
+        Checks.pass(kernel, 1);
         Checks.due("the least is below the greatest", kernel.about(1), 1);
     }
 
@@ -321,12 +309,12 @@ public final class RunTest {
         kernel.guard(0, 0, 2, 0, 2);
         kernel.guard(3, 0, 2, 0, 3);
         kernel.guard(3, 0, 2, 0, 0);
-        begin(kernel);
-        pass(kernel, 1);
+        Checks.begin(kernel);
+        Checks.pass(kernel, 1);
         Checks.dueAbout("the first true one", kernel, 1, 3, 1);
-        pass(kernel, 2);
+        Checks.pass(kernel, 2);
         Checks.dueAbout("within its period", kernel, 3, 3, 1);
-        pass(kernel, 1);
+        Checks.pass(kernel, 1);
         Checks.dueAbout("to itself", kernel, 4, 3, 4);
     }
 
@@ -340,8 +328,8 @@ public final class RunTest {
                 kernel.guard(0, 0, 5, 0, 1);
             }
             kernel.guard(1, 0, 0, 0, 0);
-            begin(kernel);
-            pass(kernel, 1);
+            Checks.begin(kernel);
+            Checks.pass(kernel, 1);
             Checks.dueAbout("with " + count + " guards", kernel, 1, 0, 1);
         }
     }
@@ -353,22 +341,22 @@ public final class RunTest {
         kernel.mode(2, 2);
         kernel.guard(0, 0, 5, 4, 2);
         kernel.guard(2, 0, 0, 5, 0);
-        begin(kernel);
+        Checks.begin(kernel);
         kernel.sensor(0, 5);
-        pass(kernel, 2);
+        Checks.pass(kernel, 2);
         Checks.dueAbout("true, but not at the end", kernel, 2, 0, 0);
         kernel.sensor(0, 1);
-        pass(kernel, 1);
+        Checks.pass(kernel, 1);
         Checks.dueAbout("at the end, but not true", kernel, 3, 0, 3);
-        pass(kernel, 2);
+        Checks.pass(kernel, 2);
         kernel.sensor(0, 6);
-        pass(kernel, 1);
+        Checks.pass(kernel, 1);
         Checks.dueAbout("true at the end", kernel, 6, 2, 6);
         Checks.dueJob("no job in mode 2", kernel, 0, 0, 0, Checks.NONE, Checks.NONE, 0, 0, 0);
-        pass(kernel, 2);
+        Checks.pass(kernel, 2);
         Checks.dueAbout("mode 2 stays", kernel, 8, 2, 8);
         kernel.sensor(0, 0);
-        pass(kernel, 2);
+        Checks.pass(kernel, 2);
         Checks.dueAbout("and goes back", kernel, 10, 0, 10);
         Checks.dueJob("with a job", kernel, 0, 0, 1, 10, 13);
     }
@@ -381,10 +369,10 @@ public final class RunTest {
         kernel.use(0, 0, 1);
         counter(kernel, 0, 0, 1);
         kernel.guard(0, 0, 2, 2, 1);
-        begin(kernel);
-        pass(kernel, 1);
+        Checks.begin(kernel);
+        Checks.pass(kernel, 1);
         Checks.due("published 1", kernel.about(1), 0);
-        pass(kernel, 1);
+        Checks.pass(kernel, 1);
         Checks.due("published 2", kernel.about(1), 1);
         Checks.due("not released any more", kernel.job(0, 1), Checks.NONE);
         Checks.due("its local stays", kernel.job(0, 6), 2);
@@ -403,12 +391,12 @@ public final class RunTest {
         kernel.wire(0, 0, 0, Checks.IN);
         kernel.port(1, 0, 999, 0);
         kernel.wire(0, 1, 1, Checks.OUT);
-        begin(kernel);
-        pass(kernel, 1);
+        Checks.begin(kernel);
+        Checks.pass(kernel, 1);
         Checks.due("published at 1", kernel.value(0), 10);
         Checks.due("latched at 1", kernel.job(0, 11), 10);
         Checks.due("of time 0", kernel.value(1), 0);
-        pass(kernel, 1);
+        Checks.pass(kernel, 1);
         Checks.due("of time 1", kernel.value(1), 10);
         Checks.due("published at 2", kernel.value(0), 20);
         Checks.dueEvent("the first task's", kernel, 2, 2, 1, 10, 0);
@@ -425,18 +413,18 @@ public final class RunTest {
         kernel.mode(1, 2);
         kernel.use(1, 5, 1);
         kernel.guard(0, 0, 4, 4, 1);
-        begin(kernel);
+        Checks.begin(kernel);
         for (int time = 0; time < 12; time++) {
             Checks.due("task 2 released", kernel.job(2, 1), time / 3 * 3);
             Checks.due("task 2 published", kernel.job(2, 2), time / 3 * 3 + 3);
             Checks.due("task 5 released", kernel.job(5, 1), time / 4 * 4);
             Checks.due("task 5 published", kernel.job(5, 2), time / 4 * 4 + 4);
-            pass(kernel, 1);
+            Checks.pass(kernel, 1);
         }
         Checks.dueAbout("mode 1", kernel, 12, 1, 12, 7, 1);
         Checks.due("task 2 is used no more", kernel.job(2, 1), Checks.NONE);
         Checks.dueJob("task 5 in mode 1", kernel, 5, 0, 7, 12, 14);
-        pass(kernel, 2);
+        Checks.pass(kernel, 2);
         Checks.due("counted on", kernel.value(1), -4);
         Checks.due("left alone", kernel.value(0), 4);
     }
@@ -450,24 +438,24 @@ public final class RunTest {
         kernel.mode(1, 3);
         kernel.guard(0, 0, 2, 0, 1);
         kernel.guard(1, 0, 2, 0, 0);
-        begin(kernel);
+        Checks.begin(kernel);
         kernel.step(2000);
         Checks.dueJob("done", kernel, 0, 0, 0, 0, 2, 3, 2, 5, 0, 0, 0, 0, 1);
-        pass(kernel, 1);
+        Checks.pass(kernel, 1);
         Checks.dueJob("still there", kernel, 0, 0, 0, 0, 2, 3, 2, 5, 0, 0, 0, 0, 1);
-        pass(kernel, 1);
+        Checks.pass(kernel, 1);
         Checks.dueJob("gone", kernel, 0, 0, 0, Checks.NONE, Checks.NONE, 0, 0, 0, 0, 0, 0, 0, 0);
         Checks.due("what was latched stays", kernel.job(0, 13), 8);
         Checks.due("pick(0)", kernel.pick(0), false);
         Checks.due("step(9)", kernel.step(9), 0);
-        pass(kernel, 3);
+        Checks.pass(kernel, 3);
         Checks.dueJob("a new one", kernel, 0, 0, 3, 5, 7, 0, 0, 0, 0, 0, 0, 0, 0);
     }
 
     private static void timeHasAnEnd() {
         PeriodKernel kernel = new PeriodKernel();
         kernel.mode(0, 7);
-        begin(kernel);
+        Checks.begin(kernel);
         for (int i = 1; i < 1000000; i++) {
             kernel.advance();
         }
@@ -482,8 +470,8 @@ public final class RunTest {
             kernel.port(i, i, i, i);
             kernel.wire(0, i, i, Checks.OUT);
         }
-        begin(kernel);
-        pass(kernel, 51);
+        Checks.begin(kernel);
+        Checks.pass(kernel, 51);
         Checks.due("all are counted", kernel.about(3), 306);
         Checks.dueEvent("the last that is kept", kernel, 299, 50, 5, 5, 0);
         Checks.dueEvent("one beyond", kernel, 300, Checks.NONE, Checks.NONE, Checks.NONE, Checks.NONE);
@@ -498,7 +486,7 @@ public final class RunTest {
         for (int port : new int[] {-1, 16, Integer.MIN_VALUE, Integer.MAX_VALUE}) {
             Checks.refused("value(" + port + ")", Checks.INDEX, () -> kernel.value(port));
         }
-        begin(kernel);
+        Checks.begin(kernel);
         Checks.due("value(15) while it runs", kernel.value(15), 4);
         Checks.refused("value(16) while it runs", Checks.INDEX, () -> kernel.value(16));
     }
@@ -507,8 +495,8 @@ public final class RunTest {
         PeriodKernel kernel = Checks.single(1, 1, Checks.END);
         kernel.wire(0, 0, 0, Checks.OUT);
         kernel.actuate(0, 0);
-        begin(kernel);
-        pass(kernel, 1);
+        Checks.begin(kernel);
+        Checks.pass(kernel, 1);
         for (int beyond : new int[] {-1, 1000, Integer.MIN_VALUE, Integer.MAX_VALUE}) {
             Checks.due("about(" + beyond + ")", kernel.about(beyond), Checks.NONE);
             Checks.due("event(0, " + beyond + ")", kernel.event(0, beyond), Checks.NONE);
