@@ -357,9 +357,14 @@ final class AskPromises extends Checks {
         kernel.wire(0, 2, 0, OUT);
         kernel.wire(0, 2, 0, IN);
         kernel.wire(1, 0, 0, IN);
+        kernel.mode(1, 1);
+        kernel.guard(0, 0, 2, 7, 1);
         dueJob("IN and not latched yet, unwired, IN instead of OUT", kernel, 0, 11, 0, 0, 0, 0, 0, 0);
         begin(kernel);
         dueJob("latched, unwired, latched", kernel, 0, 11, 7, 0, 7, 0, 0, 0);
+        pass(kernel, 1);
+        due("without a job", kernel.job(0, 1), NONE);
+        dueJob("but latched once", kernel, 0, 11, 7, 0, 7, 0, 0, 0);
         due("IN of a task that is never released", kernel.job(1, 11), 0);
     }
 

@@ -2,6 +2,10 @@
 final class LookSentences extends Checks {
     private static final int[] PLAIN = {END, ADD, SUB, MUL, DIV, LESS, SAME, DUP, SWAP, DROP};
 
+    /** How many each word takes from the stack, and how many it leaves there. */
+    private static final int[] TAKES = {0, 0, 0, 1, 2, 2, 2, 2, 2, 2, 0, 1, 1, 2, 1, 0, 1};
+    private static final int[] LEAVES = {0, 1, 1, 0, 1, 1, 1, 1, 1, 1, 0, 0, 2, 2, 0, 1, 0};
+
     static void read(Book book) {
         book.sentence("LOOKED AT (what stands for modes that are none is left out)",
                 LookSentences::modesThatAreNoneAreLeftOut);
@@ -255,25 +259,43 @@ final class LookSentences extends Checks {
     }
 
     private static void whatItTakesIsOnTheStack() {
-        int[] takes = {0, 0, 0, 1, 2, 2, 2, 2, 2, 2, 0, 1, 1, 2, 1, 0, 1};
         for (int what = 0; what <= 16; what++) {
             for (int pushes = 0; pushes <= 3; pushes++) {
                 int n = what == JUMP || what == SKIP ? pushes + 1 : 0;
                 PeriodKernel kernel = single(1, 1, behindPushes(pushes, word(what, n), END));
                 kernel.wire(0, 0, 0, what == SET ? OUT : IN);
-                due("word " + what + " of " + pushes, kernel.start(), pushes < takes[what] ? 100 : 0);
+                due("word " + what + " of " + pushes, kernel.start(), pushes < TAKES[what] ? 100 : 0);
             }
+        }
+        whatEachWordLeavesIsOnTheStack();
+    }
+
+    /** Behind each word there is as much on the stack as it leaves: so much may be dropped, and no more. */
+    private static void whatEachWordLeavesIsOnTheStack() {
+        for (int what = 1; what <= 16; what++) {
+            int left = 3 - TAKES[what] + LEAVES[what];
+            due("word " + what + " and " + left + " DROP", startWithDrops(what, left), 0);
+            due("word " + what + " and " + (left + 1) + " DROP", startWithDrops(what, left + 1), 100);
         }
     }
 
+    private static int startWithDrops(int what, int drops) {
+        PeriodKernel kernel = single(1, 1, behindPushes(3, word(what, what == JUMP || what == SKIP ? 4 : 0)));
+        kernel.wire(0, 0, 0, what == SET ? OUT : IN);
+        for (int i = 0; i < drops; i++) {
+            kernel.code(0, DROP);
+        }
+        kernel.code(0, END);
+        return kernel.start();
+    }
+
     private static void neverMoreThan8() {
-        int[] leaves = {0, 1, 1, -1, -1, -1, -1, -1, -1, -1, 0, -1, 1, 0, -1, 1, -1};
         for (int what = 0; what <= 16; what++) {
             for (int pushes = 7; pushes <= 8; pushes++) {
                 int n = what == JUMP || what == SKIP ? pushes + 1 : 0;
                 PeriodKernel kernel = single(1, 1, behindPushes(pushes, word(what, n), END));
                 kernel.wire(0, 0, 0, what == SET ? OUT : IN);
-                due("word " + what + " on " + pushes, kernel.start(), pushes + leaves[what] > 8 ? 100 : 0);
+                due("word " + what + " on " + pushes, kernel.start(), pushes - TAKES[what] + LEAVES[what] > 8 ? 100 : 0);
             }
         }
         due("8 at the end", start(behindPushes(8, END)), 0);
@@ -390,6 +412,14 @@ final class LookSentences extends Checks {
             }
             due("two from mode " + first + " on", kernel.start(), 400 + first);
         }
+        for (int pair = 0; pair < 48 * 48; pair++) {
+            int one = pair / 48;
+            int other = pair % 48;
+            if (one / 6 != other / 6) {
+                due("slots " + one % 6 + " and " + other % 6 + " of tasks " + one / 6 + " and " + other / 6,
+                        startWithOuts(one, other), 401);
+            }
+        }
         PeriodKernel kernel = sound(60);
         kernel.wire(0, 0, 0, OUT);
         kernel.wire(1, 0, 0, OUT);
@@ -402,20 +432,29 @@ final class LookSentences extends Checks {
         due("one in each mode, one IN, one at another port", kernel.start(), 0);
     }
 
-    private static void fault4IsOneTaskTwice() {
-        for (int slot = 1; slot <= 5; slot++) {
-            PeriodKernel kernel = sound(60);
-            kernel.wire(3, 0, 15, OUT);
-            kernel.wire(3, slot, 15, OUT);
-            due("in none of the modes", kernel.start(), 0);
-            PeriodKernel used = sound(60);
-            used.wire(3, 0, 15, OUT);
-            used.wire(3, slot, 15, OUT);
-            used.use(2, 3, 1);
-            due("slots 0 and " + slot, used.start(), 402);
-            used.wire(3, slot, 15, IN);
-            due("one of them is IN", used.start(), 0);
+    /** Two slots, counted through all tasks, are OUT at one port, in mode 1. */
+    private static int startWithOuts(int one, int other) {
+        PeriodKernel kernel = new PeriodKernel();
+        kernel.mode(0, 1);
+        kernel.mode(1, 1);
+        for (int slot : new int[] {one, other}) {
+            kernel.code(slot / 6, END);
+            kernel.use(1, slot / 6, 1);
+            kernel.wire(slot / 6, slot % 6, 15, OUT);
         }
+        return kernel.start();
+    }
+
+    private static void fault4IsOneTaskTwice() {
+        for (int one = 0; one < 48; one++) {
+            for (int other = one + 1; other / 6 == one / 6; other++) {
+                due("slots " + one % 6 + " and " + other % 6 + " of task " + one / 6, startWithOuts(one, other), 401);
+            }
+        }
+        PeriodKernel unused = sound(60);
+        unused.wire(3, 0, 15, OUT);
+        unused.wire(3, 1, 15, OUT);
+        due("of a task that is not used", unused.start(), 0);
         PeriodKernel kernel = sound(60);
         kernel.use(1, 6, 1);
         kernel.wire(6, 4, 0, OUT);

@@ -20,7 +20,12 @@ final class RefusalSentences extends Checks {
     private static final int TASK = 0;
     private static final int FULL_TASK = 7;
     private static final int FULL_MODE = 3;
-    private static final int TIMES = 9;
+
+    /** Points of a story. */
+    private static final int BUILT = 0;
+    private static final int STARTED = 1;
+    private static final int LATER = 6;
+    private static final int END_OF_STORY = 13;
 
     static void read(Book book) {
         book.sentence("Exceptions, in this order: IndexOutOfBoundsException "
@@ -32,15 +37,18 @@ final class RefusalSentences extends Checks {
         book.sentence("The constants: `NONE = -1`: None", RefusalSentences::noneIsMinus1);
     }
 
-    /** A program in which there is something of everything, with a full code and full guards. */
+    /** Something of everything, a full code and full guards; ports 1 and 2 come to their ends. */
     private static PeriodKernel built() {
         PeriodKernel kernel = new PeriodKernel();
-        code(kernel, TASK, word(GET, 0), word(LOAD, 1), ADD, DUP, word(STORE, 1), word(SET, 1), END);
-        kernel.task(TASK, 9);
+        code(kernel, TASK, word(GET, 0), word(LOAD, 1), ADD, DUP, word(STORE, 1), DUP, word(SET, 1), word(PUSH, -1),
+                MUL, word(SET, 2), END);
+        kernel.task(TASK, 12);
         kernel.port(0, -50, 50, 3);
-        kernel.port(1, -99, 99, 4);
+        kernel.port(1, -60, 60, 4);
+        kernel.port(2, -60, 60, 5);
         kernel.wire(TASK, 0, 0, IN);
         kernel.wire(TASK, 1, 1, OUT);
+        kernel.wire(TASK, 2, 2, OUT);
         for (int i = 0; i < 31; i++) {
             kernel.code(FULL_TASK, word(JUMP, i + 1));
         }
@@ -48,7 +56,7 @@ final class RefusalSentences extends Checks {
         kernel.mode(0, 4);
         kernel.use(0, TASK, 2);
         kernel.use(0, FULL_TASK, 1);
-        kernel.guard(0, 0, 5, 20, FULL_MODE);
+        kernel.guard(0, 0, 5, 21, FULL_MODE);
         kernel.mode(FULL_MODE, 3);
         kernel.use(FULL_MODE, TASK, 1);
         for (int i = 0; i < 4; i++) {
@@ -57,6 +65,7 @@ final class RefusalSentences extends Checks {
         kernel.sense(0, 0);
         kernel.sensor(0, 21);
         kernel.actuate(0, 1);
+        kernel.actuate(1, 2);
         return kernel;
     }
 
@@ -125,22 +134,25 @@ final class RefusalSentences extends Checks {
             all.add(new Refusal("way " + no, ARGUMENT, k -> k.wire(TASK, 1, 0, no)));
             all.add(new Refusal("a period of " + no, ARGUMENT, k -> k.mode(0, no)));
             all.add(new Refusal("used " + no + " times", ARGUMENT, k -> k.use(0, TASK, no)));
-            all.add(new Refusal("how " + no, ARGUMENT, k -> k.guard(0, 0, no, 0, 0)));
+            all.add(new Refusal("how " + no, ARGUMENT, k -> k.guard(0, 0, no, 0, FULL_MODE)));
             all.add(new Refusal("step(" + no + ")", ARGUMENT, k -> k.step(no)));
         }
         all.add(new Refusal("a budget of 0", ARGUMENT, k -> k.task(TASK, 0)));
         all.add(new Refusal("a budget of 201", ARGUMENT, k -> k.task(TASK, 201)));
         all.add(new Refusal("word 33", ARGUMENT, k -> k.code(FULL_TASK, END)));
-        all.add(new Refusal("a value below", ARGUMENT, k -> k.port(1, 10, 20, 9)));
-        all.add(new Refusal("a value above", ARGUMENT, k -> k.port(1, 10, 20, 21)));
-        all.add(new Refusal("a least above the greatest", ARGUMENT, k -> k.port(1, 20, 10, 15)));
+        for (int port = 0; port <= 2; port++) {
+            int no = port;
+            all.add(new Refusal("a value below", ARGUMENT, k -> k.port(no, 500, 1000, 499)));
+            all.add(new Refusal("a value above", ARGUMENT, k -> k.port(no, -1000, -500, -499)));
+            all.add(new Refusal("a least above the greatest", ARGUMENT, k -> k.port(no, 10, -10, 0)));
+        }
         all.add(new Refusal("way 2", ARGUMENT, k -> k.wire(TASK, 1, 0, 2)));
         all.add(new Refusal("a period of -1", ARGUMENT, k -> k.mode(0, -1)));
         all.add(new Refusal("a period of 61", ARGUMENT, k -> k.mode(0, 61)));
         all.add(new Refusal("used -1 times", ARGUMENT, k -> k.use(0, TASK, -1)));
         all.add(new Refusal("used 13 times", ARGUMENT, k -> k.use(0, TASK, 13)));
-        all.add(new Refusal("how -1", ARGUMENT, k -> k.guard(0, 0, -1, 0, 0)));
-        all.add(new Refusal("how 6", ARGUMENT, k -> k.guard(0, 0, 6, 0, 0)));
+        all.add(new Refusal("how -1", ARGUMENT, k -> k.guard(0, 0, -1, 0, FULL_MODE)));
+        all.add(new Refusal("how 6", ARGUMENT, k -> k.guard(0, 0, 6, 0, FULL_MODE)));
         all.add(new Refusal("guard 5", ARGUMENT, k -> k.guard(FULL_MODE, 0, 4, 0, 0)));
         all.add(new Refusal("step(-1)", ARGUMENT, k -> k.step(-1)));
         return all;
@@ -151,6 +163,7 @@ final class RefusalSentences extends Checks {
         all.add(new Refusal("task", STATE, k -> k.task(TASK, 1)));
         all.add(new Refusal("code", STATE, k -> k.code(TASK, END)));
         all.add(new Refusal("port", STATE, k -> k.port(1, -9, 9, 9)));
+        all.add(new Refusal("port 2", STATE, k -> k.port(2, -900, 900, 500)));
         all.add(new Refusal("wire IN", STATE, k -> k.wire(TASK, 2, 0, IN)));
         all.add(new Refusal("wire OUT", STATE, k -> k.wire(TASK, 2, 9, OUT)));
         all.add(new Refusal("unwire", STATE, k -> k.wire(TASK, 1, 1, NONE)));
@@ -211,18 +224,18 @@ final class RefusalSentences extends Checks {
     }
 
     /** All answers at the end of a story in which a call is refused at one point of it, or none. */
-    private static List<Integer> story(Refusal refusal, int point) {
+    private static List<Integer> story(Refusal refusal, int point, int end) {
         PeriodKernel kernel = built();
-        for (int i = 0; i <= TIMES; i++) {
-            if (i == point) {
-                refused(refusal.what, refusal.how, () -> refusal.call.accept(kernel));
-            }
-            if (i == 0) {
+        for (int i = 0; i <= end; i++) {
+            if (i == 1) {
                 begin(kernel);
-            } else {
-                kernel.sensor(0, 20 + i % 3);
+            } else if (i > 1) {
+                kernel.sensor(0, 20 + (i - 1) % 3);
                 kernel.pick(FULL_TASK);
                 pass(kernel, 1);
+            }
+            if (i == point) {
+                refused(refusal.what, refusal.how, () -> refusal.call.accept(kernel));
             }
         }
         return answers(kernel);
@@ -254,45 +267,44 @@ final class RefusalSentences extends Checks {
     }
 
     private static void whatThrowsChangesNothing() {
-        List<Integer> undisturbed = story(null, NONE);
-        due("there is something to tell", undisturbed.size() > 100, true);
         List<Refusal> always = new ArrayList<>(ofIndexes());
         always.addAll(ofArguments());
         for (Refusal refusal : always) {
-            dueSame(refusal, 0, undisturbed);
-            dueSame(refusal, 5, undisturbed);
+            dueUndisturbed(refusal, BUILT);
+            dueUndisturbed(refusal, STARTED);
+            dueUndisturbed(refusal, LATER);
         }
         for (Refusal refusal : whileNothingRuns()) {
-            dueSame(refusal, 0, undisturbed);
+            dueUndisturbed(refusal, BUILT);
         }
         for (Refusal refusal : whileItRuns()) {
-            dueSame(refusal, 1, undisturbed);
-            dueSame(refusal, 5, undisturbed);
+            dueUndisturbed(refusal, STARTED);
+            dueUndisturbed(refusal, LATER);
         }
-        dueSame(new Refusal("advance() before a job that is not done", STATE, RefusalSentences::advanceTwice), 1,
-                advancedOnce());
+        advanceThatIsRefusedChangesNothing();
     }
 
-    private static void dueSame(Refusal refusal, int point, List<Integer> undisturbed) {
-        due("what is told behind " + refusal.what, story(refusal, point).equals(undisturbed), true);
+    private static void dueUndisturbed(Refusal refusal, int point) {
+        due("what is told right behind " + refusal.what,
+                story(refusal, point, point).equals(story(null, NONE, point)), true);
+        due("what is told long behind " + refusal.what,
+                story(refusal, point, END_OF_STORY).equals(story(null, NONE, END_OF_STORY)), true);
     }
 
-    private static void advanceTwice(PeriodKernel kernel) {
+    private static void advanceThatIsRefusedChangesNothing() {
+        PeriodKernel kernel = running();
+        PeriodKernel twin = running();
+        kernel.sensor(0, 33);
+        twin.sensor(0, 33);
         kernel.advance();
-        kernel.advance();
-    }
-
-    /** The story with one time more at its beginning, in which nothing is run. */
-    private static List<Integer> advancedOnce() {
-        PeriodKernel kernel = built();
-        begin(kernel);
-        kernel.advance();
-        for (int i = 1; i <= TIMES; i++) {
-            kernel.sensor(0, 20 + i % 3);
-            kernel.pick(FULL_TASK);
-            pass(kernel, 1);
-        }
-        return answers(kernel);
+        twin.advance();
+        kernel.sensor(0, 44);
+        twin.sensor(0, 44);
+        refused("advance() before a job that is not done", STATE, kernel::advance);
+        due("what is told right behind it", answers(kernel).equals(answers(twin)), true);
+        pass(kernel, 3);
+        pass(twin, 3);
+        due("what is told long behind it", answers(kernel).equals(answers(twin)), true);
     }
 
     private static void noneIsMinus1() {

@@ -373,7 +373,7 @@ final class RunPromises extends Checks {
     }
 
     private static void advanceWaitsForJobs() {
-        PeriodKernel kernel = single(6, 3, word(JUMP, 0));
+        PeriodKernel kernel = single(6, 3, word(PUSH, 1), word(PUSH, 2), word(JUMP, 2));
         kernel.use(0, 0, 2);
         kernel.use(0, 7, 3);
         kernel.code(7, END);

@@ -1,6 +1,7 @@
 /** "WORDS of a code": what each word does to the stack, the locals, the slots and the next word. */
 final class WordSentences extends Checks {
-    private static final int[] EDGES = {LEAST, LEAST + 1, -65536, -7, -2, -1, 0, 1, 2, 7, 65536, GREATEST - 1, GREATEST};
+    private static final int[] EDGES = {LEAST, LEAST + 1, -65536, -7, -2, -1, 0, 1, 2, 7, 65536, GREATEST - 1,
+        GREATEST};
 
     static void read(Book book) {
         book.sentence("WORDS of a code: the lowest 6 bits what", WordSentences::lowest6BitsSayWhat);
