@@ -11,6 +11,9 @@ public final class DrawnTest {
         {"task", "code", "mode", "sense", "actuate", "sensor", "actuator", "job", "event"}, {"use"},
         {"port", "wire"}, {"guard"}};
 
+    /** The greatest that the document allows somewhere, and one beyond. */
+    private static final int[] LIMITS = {3, 4, 5, 6, 7, 8, 12, 13, 15, 16, 17, 32, 33, 60, 61, 200, 201, 2000, 2001};
+
     private final Draw draw;
     private final Both both;
     private final int[][] ways = new int[8][6];
@@ -142,12 +145,12 @@ public final class DrawnTest {
         both.call("wire", 0, 1, 3, Checks.OUT);
     }
 
-    /** Any method with any arguments, most of them near what is right. */
+    /** Any method with any arguments, most of them near what is right, or at a limit of it. */
     static String anyCall(Both both, Draw draw) {
         int count = draw.from(0, 5);
         Integer[] arguments = new Integer[count];
         for (int i = 0; i < count; i++) {
-            arguments[i] = draw.chance(6) ? draw.anyInt() : draw.chance(12) ? draw.from(-3, 66) : draw.from(-1, 4);
+            arguments[i] = draw.chance(6) ? draw.anyInt() : draw.chance(6) ? draw.of(LIMITS) : draw.from(-1, 4);
         }
         return both.call(METHODS[count][draw.from(0, METHODS[count].length - 1)], arguments);
     }

@@ -1,45 +1,21 @@
+import java.io.IOException;
 import java.lang.reflect.Constructor;
 import java.lang.reflect.Executable;
 import java.lang.reflect.Field;
 import java.lang.reflect.Method;
 import java.lang.reflect.Modifier;
+import java.nio.file.Files;
+import java.nio.file.Path;
 import java.util.ArrayList;
-import java.util.Arrays;
 import java.util.List;
 import java.util.TreeSet;
 
-/** The public face is the document's, and there is nothing beside it. */
+/** The public face is the one that stands in the document, and there is nothing beside it. */
 public final class FaceTest {
-    private static final String I = "IndexOutOfBoundsException";
-    private static final String A = "IllegalArgumentException";
-    private static final String S = "IllegalStateException";
+    private static final Path DOCUMENT = Path.of("../shared/DOC.md");
 
-    private static final String[] FACE = {
-        "public static final int NONE",
-        "public PeriodKernel()",
-        "public void task(int, int) " + List.of(I, A, S),
-        "public int code(int, int) " + List.of(I, A, S),
-        "public void port(int, int, int, int) " + List.of(I, A, S),
-        "public void wire(int, int, int, int) " + List.of(I, A, S),
-        "public void mode(int, int) " + List.of(I, A, S),
-        "public void use(int, int, int) " + List.of(I, A, S),
-        "public int guard(int, int, int, int, int) " + List.of(I, A, S),
-        "public void sense(int, int) " + List.of(I, S),
-        "public void actuate(int, int) " + List.of(I, S),
-        "public int start() " + List.of(S),
-        "public void sensor(int, int) " + List.of(I),
-        "public boolean pick(int) " + List.of(I),
-        "public int step(int) " + List.of(A, S),
-        "public int advance() " + List.of(S),
-        "public int value(int) " + List.of(I),
-        "public int actuator(int, int)",
-        "public int about(int)",
-        "public int job(int, int)",
-        "public int event(int, int)",
-    };
-
-    public static void main(String[] args) {
-        TreeSet<String> want = new TreeSet<>(Arrays.asList(FACE));
+    public static void main(String[] args) throws IOException {
+        TreeSet<String> want = faceInTheDocument();
         TreeSet<String> got = new TreeSet<>();
         List<String> publicNames = new ArrayList<>();
         List<String> privateNames = new ArrayList<>();
@@ -72,6 +48,22 @@ public final class FaceTest {
         Checks.due("public final", Modifier.isPublic(modifiers) && Modifier.isFinal(modifiers), true);
         Checks.due("NONE", PeriodKernel.NONE, -1);
         Checks.end();
+    }
+
+    /** Its lines from the class's head to its end, each in the form that text gives to a member. */
+    private static TreeSet<String> faceInTheDocument() throws IOException {
+        TreeSet<String> face = new TreeSet<>();
+        boolean inside = false;
+        for (String line : Files.readAllLines(DOCUMENT)) {
+            boolean head = line.equals("public final class PeriodKernel {");
+            inside = head || inside && !line.equals("}");
+            if (inside && !head) {
+                face.add(line.strip().replaceAll("int \\w+([,)])", "int$1").replaceAll(" throws (.*);", " [$1]")
+                        .replaceAll(" = .*|;", ""));
+            }
+        }
+        Checks.due("members in the document", face.size(), 21);
+        return face;
     }
 
     private static String text(Executable made, String name) {
